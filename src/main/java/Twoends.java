@@ -33,7 +33,6 @@ public final class Twoends {
     private final Row paperSiding;
     private final Row paperLine;
     private final Row openBrackets;
-    private final StringBuilder writer;
 
     /** A row of numbers without holes, with room for so many and no more. */
     private static final class Row {
@@ -251,7 +250,6 @@ public final class Twoends {
         paperSiding = new Row(TRACK_ROOM);
         paperLine = new Row(TRACK_ROOM);
         openBrackets = new Row(TRACK_ROOM);
-        writer = new StringBuilder();
     }
 
     // ---- pieces put at the ends
@@ -720,8 +718,15 @@ public final class Twoends {
 
     public String text(int track, boolean isBack) throws IndexOutOfBoundsException {
         needTrack(track);
-        write(track, isBack);
-        return writer.toString();
+        Row row = trackOf(track);
+        StringBuilder written = new StringBuilder();
+        for (int k = 0; k < row.size(); k++) {
+            if (k > 0) {
+                written.append(' ');
+            }
+            written.append(row.readFrom(isBack, k));
+        }
+        return written.toString();
     }
 
     public int nested(int track) throws IndexOutOfBoundsException {
@@ -1123,15 +1128,13 @@ public final class Twoends {
         return true;
     }
 
-    private void write(int track, boolean isBack) {
-        Row row = trackOf(track);
-        writer.setLength(0);
-        for (int k = 0; k < row.size(); k++) {
-            if (k > 0) {
-                writer.append(' ');
-            }
-            writer.append(row.readFrom(isBack, k));
+    /** How long text() is, told without writing it, so that a checksum leaves no texts behind. */
+    private static int writtenLength(Row row) {
+        int length = Math.max(0, row.size() - 1);
+        for (int place = 0; place < row.size(); place++) {
+            length += kindOf(row.read(place)) == GAP ? 1 : 3;
         }
+        return length;
     }
 
     private int mostOpen(int track) {
@@ -1226,8 +1229,7 @@ public final class Twoends {
         for (int place = 0; place < row.size(); place++) {
             d = with(d, row.read(place));
         }
-        write(track, true);
-        d = with(d, writer.length());
+        d = with(d, writtenLength(row));
         return with(d, mostOpen(track));
     }
 

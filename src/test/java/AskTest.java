@@ -126,6 +126,8 @@ public final class AskTest {
         compared(true, false, new int[] {100}, none);
         compared(true, true, new int[] {100, 299}, new int[] {150, 200});
         compared(true, false, new int[] {100, 299}, new int[] {200, 150});
+        compared(true, false, new int[] {100, 200}, new int[] {300, 200});
+        compared(true, false, new int[] {100, 200}, new int[] {100, 300});
         compared(true, false, new int[] {100, 200}, new int[] {100, 200, 300});
         compared(true, false, new int[] {100, 200}, new int[] {100, 0});
         compared(false, true, none, none);
@@ -303,6 +305,10 @@ public final class AskTest {
         y.order(0);
         y.work(1);
         c.idle("isSound after a move", y, true, y::isSound);
+        for (int what = 0; what < 10; what++) {
+            y.order(what % 8);
+        }
+        c.idle("isSound with 10 orders", y, true, y::isSound);
         y.stand(0, 20);
         c.idle("isSound with a walker at the end", y, true, y::isSound);
         y.pop(1);
@@ -347,5 +353,18 @@ public final class AskTest {
         c.idle("digest", x, want, x::digest);
         x.walk(false);
         c.same("the walk counts", true, want != x.digest());
+
+        Twoends like = of(0, 101);
+        like.append(1, 1, 2);
+        like.append(1, 9, 0);
+        like.stand(0, 0);
+        c.idle("digest of tracks that are like in one way alone", like, checksum(
+                1, 0, 1, 32, 101, 101, 101, 101, 101, 101, 101, 3, -1,
+                2, 0, 2, 1001, 102, 900, 102, 900, 102, 102, 102, 900, 7, -1,
+                -1, -1, 0, 0, -1, -1, -1, -1, -1, -1, -1, -1, -1, -1, -1, -1, -1, -1, 1, 1,
+                1, 0, -1, 1, 0, 0,
+                0, -1, -1, 3, 7900, 0, 0, 0,
+                7900, 7102, 3101,
+                1, 0, 1), like::digest);
     }
 }

@@ -133,6 +133,11 @@ public final class KindsTest {
         Twoends w = busy();
         c.idle("shed of none", w, 0, () -> w.shed(0, false, 65, 20));
         c.idle("shed of none", w, 0, () -> w.shed(1, true, 71, 20));
+        Twoends none = new Twoends();
+        none.append(0, 1, 1);
+        none.stand(0, 0);
+        c.idle("shed of an empty one", none, 0, () -> none.shed(1, false, 0, 20));
+        c.idle("shed of an empty one", none, 0, () -> none.shed(1, true, 0, 20));
         c.argument("load -1", w, () -> w.shed(0, false, -1, 1));
         c.argument("load 100", w, () -> w.shed(0, false, 100, 1));
         c.argument("many 0", w, () -> w.shed(1, false, 0, 0));
