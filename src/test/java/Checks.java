@@ -33,11 +33,13 @@ final class Checks {
         same(what, String.valueOf(want), answerOf(call));
     }
 
-    /** As due(), and the digest must not change by it. */
+    /** As due(), and nothing must change by it: neither the digest, nor what will be answered later. */
     void idle(String what, Twoends x, Object want, Call call) {
         long before = x.digest();
+        String future = Futures.of(x);
         due(what, want, call);
         same(what + " changed something: digest", before, x.digest());
+        same(what + " changed what comes later:", future, Futures.of(x));
     }
 
     void index(String what, Twoends x, Call call) {
