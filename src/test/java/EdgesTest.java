@@ -172,6 +172,7 @@ public final class EdgesTest {
             int times = call.group(1) == null ? 1 : Integer.parseInt(call.group(1));
             for (int k = 0; k < times; k++) {
                 answer(x, model, call, quote + ": " + row + ": " + told);
+                c.same(row + ": the digest after " + told, model.digest(), x.digest());
             }
         }
         c.due(row + ": isSound", true, x::isSound);

@@ -4,6 +4,7 @@ import java.lang.reflect.Method;
 import java.lang.reflect.Modifier;
 import java.nio.file.Files;
 import java.nio.file.Path;
+import java.util.ArrayList;
 import java.util.Arrays;
 import java.util.List;
 import java.util.Set;
@@ -19,6 +20,7 @@ public final class FaceTest {
         face();
         nothingElse();
         words();
+        sizes();
         c.end();
     }
 
@@ -87,5 +89,28 @@ public final class FaceTest {
             c.same("use of " + word, false, Pattern.compile(word).matcher(code).find());
         }
         c.same("signs 1 to 127", true, source.chars().allMatch(sign -> sign >= 1 && sign <= 127));
+    }
+
+    /** Rule 11: parameters, lines of a method and fields of a class. */
+    private static void sizes() throws IOException {
+        List<Class<?>> all = new ArrayList<>(List.of(Twoends.class.getDeclaredClasses()));
+        all.add(Twoends.class);
+        for (Class<?> own : all) {
+            long fields = Arrays.stream(own.getDeclaredFields())
+                    .filter(field -> !Modifier.isStatic(field.getModifiers())).count();
+            c.same("at most twenty fields: " + own, true, fields <= 20);
+            for (Method method : own.getDeclaredMethods()) {
+                c.same("at most seven parameters: " + method, true, method.getParameterCount() <= 7);
+            }
+        }
+        List<String> rows = Files.readAllLines(Path.of("src/main/java/Twoends.java"));
+        for (int from = 0; from < rows.size(); from++) {
+            String row = rows.get(from);
+            String indent = row.substring(0, row.length() - row.stripLeading().length());
+            if (row.endsWith("{") && !row.contains(" class ") && (indent.length() == 4 || indent.length() == 8)) {
+                int to = rows.subList(from, rows.size()).indexOf(indent + "}");
+                c.same("at most sixty lines: " + row.strip(), true, to > 0 && to < 60);
+            }
+        }
     }
 }

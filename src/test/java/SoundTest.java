@@ -54,6 +54,7 @@ public final class SoundTest {
         Twoends full = new Twoends();
         full.train(1, 1, 0, 12);
         full.train(1, 1, 0, 8);
+        full.replace(0, 1, 0);
         full.pop(1);
         number(part(full, "line"), "count", 20);
         unsound("more than 20 on paper", full);
