@@ -1,5 +1,4 @@
 import java.io.IOException;
-import java.lang.reflect.InvocationTargetException;
 import java.lang.reflect.Method;
 import java.nio.file.Files;
 import java.nio.file.Path;
@@ -35,7 +34,6 @@ public final class EdgesTest {
             "Argument", "throws.IllegalArgumentException",
             "State", "throws.IllegalStateException");
 
-    private final Map<String, Method> methods = new HashMap<>();
     private final Map<String, String> names = new HashMap<>();
     private final Map<Integer, Section> sections = new HashMap<>();
     private int promise;
@@ -71,9 +69,6 @@ public final class EdgesTest {
 
     public static void main(String[] args) throws IOException {
         EdgesTest test = new EdgesTest();
-        for (Method method : Twoends.class.getDeclaredMethods()) {
-            test.methods.putIfAbsent(method.getName(), method);
-        }
         test.readDocument(Files.readString(Path.of("../shared/DOC.md")));
         for (String row : wholeRows(Files.readAllLines(Path.of("src/test/edges.txt")))) {
             test.readRow(row);
@@ -165,7 +160,7 @@ public final class EdgesTest {
         YardModel model = new YardModel();
         for (String told : calls(row)) {
             Matcher call = CALL.matcher(told);
-            if (!call.matches() || !methods.containsKey(call.group(2))) {
+            if (!call.matches() || Calls.method(call.group(2)) == null) {
                 c.same("a call that can be read in " + row, "", told);
                 return;
             }
@@ -179,20 +174,20 @@ public final class EdgesTest {
     }
 
     private void answer(Twoends x, YardModel model, Matcher call, String what) {
-        Method method = methods.get(call.group(2));
-        Object[] values = values(method, call.group(3));
-        String want = answerOf(twin(method), model, values);
+        Method method = Calls.method(call.group(2));
+        Object[] values = Calls.values(method, call.group(3));
+        String want = Calls.answerOf(twin(method), model, values);
         if (call.group(5) == null) {
-            c.same(what, want, answerOf(method, x, values));
+            c.same(what, want, Calls.answerOf(method, x, values));
             return;
         }
         String due = due(call.group(5));
         boolean isIdle = call.group(4).equals("==") || due.equals("-9") || due.equals("false")
                 || EXCEPTIONS.containsValue(due);
         if (isIdle) {
-            c.idle(what, x, due, () -> call(method, x, values));
+            c.idle(what, x, due, () -> Calls.call(method, x, values));
         } else {
-            c.due(what, due, () -> call(method, x, values));
+            c.due(what, due, () -> Calls.call(method, x, values));
         }
         c.same("the model: " + what, due, want);
     }
@@ -201,47 +196,10 @@ public final class EdgesTest {
         return told.startsWith("\"") ? told.substring(1, told.length() - 1) : EXCEPTIONS.getOrDefault(told, told);
     }
 
-    private static Object[] values(Method method, String told) {
-        String[] texts = told.isEmpty() ? new String[0] : told.split(", *");
-        Class<?>[] sorts = method.getParameterTypes();
-        if (texts.length != sorts.length) {
-            throw new IllegalArgumentException(method + " cannot be called with " + told);
-        }
-        Object[] values = new Object[texts.length];
-        for (int k = 0; k < values.length; k++) {
-            values[k] = sorts[k] == boolean.class ? (Object) Boolean.valueOf(texts[k]) : (Object) number(texts[k]);
-        }
-        return values;
-    }
-
-    private static Integer number(String told) {
-        if (told.equals("MIN")) {
-            return Integer.MIN_VALUE;
-        }
-        return told.equals("MAX") ? Integer.MAX_VALUE : Integer.parseInt(told);
-    }
-
     private static Method twin(Method method) {
         try {
             return YardModel.class.getMethod(method.getName(), method.getParameterTypes());
         } catch (NoSuchMethodException e) {
-            throw new IllegalStateException(e);
-        }
-    }
-
-    private static String answerOf(Method method, Object of, Object[] values) {
-        return Checks.answerOf(() -> call(method, of, values));
-    }
-
-    private static Object call(Method method, Object of, Object[] values) {
-        try {
-            return method.invoke(of, values);
-        } catch (InvocationTargetException e) {
-            if (e.getCause() instanceof RuntimeException thrown) {
-                throw thrown;
-            }
-            throw new IllegalStateException(e);
-        } catch (IllegalAccessException e) {
             throw new IllegalStateException(e);
         }
     }
